@@ -52,7 +52,7 @@ public final class StateEnds {
             return BAD;
         }
         int slot = slotOf(state, key, member);
-        int there = placeOf(slot, 0);
+        int there = placeOf(slot, 0, true);
         if (there == NOWHERE) {
             return bring(slot, v) ? 0 : FULL;
         }
@@ -68,14 +68,14 @@ public final class StateEnds {
         if (!isNumberFor(state, key, member)) {
             return BAD;
         }
-        return read(shownPlaceOf(slotOf(state, key, member), 0));
+        return read(placeOf(slotOf(state, key, member), 0, false));
     }
 
     public int remove(int state, int key, int member) {
         if (!isNumberFor(state, key, member)) {
             return BAD;
         }
-        int there = placeOf(slotOf(state, key, member), 0);
+        int there = placeOf(slotOf(state, key, member), 0, true);
         if (there == NOWHERE) {
             return NO;
         }
@@ -98,7 +98,7 @@ public final class StateEnds {
         if (!isListFor(state, key)) {
             return BAD;
         }
-        return read(shownPlaceOf(slotOf(state, key, 0), i));
+        return read(placeOf(slotOf(state, key, 0), i, false));
     }
 
     public int clear(int state, int key) {
@@ -125,7 +125,7 @@ public final class StateEnds {
         if (!isMemberOrIndexFor(state, key, member)) {
             return BAD;
         }
-        int p = shownPlaceOf(slotFor(state, key, member), indexFor(state, member));
+        int p = placeOf(slotFor(state, key, member), indexFor(state, member), false);
         return p == NOWHERE ? NONE : leftOf(p);
     }
 
@@ -222,7 +222,7 @@ public final class StateEnds {
         if (!isMemberOrIndexFor(state, key, member)) {
             return BAD;
         }
-        int p = placeOf(slotFor(state, key, member), indexFor(state, member));
+        int p = placeOf(slotFor(state, key, member), indexFor(state, member), true);
         return p == NOWHERE ? NONE : p;
     }
 
@@ -314,25 +314,12 @@ public final class StateEnds {
         return places.ends[p] - states.timeOf(places.stateAt(p));
     }
 
-    private int placeOf(int slot, int i) {
+    /** The i-th entry of a slot: of those that are shown, or of all that are there. */
+    private int placeOf(int slot, int i, boolean overToo) {
         int before = 0;
         for (int j = 0; j < places.taken; j++) {
             int p = places.line[j];
-            if (places.slots[p] == slot) {
-                if (before == i) {
-                    return p;
-                }
-                before++;
-            }
-        }
-        return NOWHERE;
-    }
-
-    private int shownPlaceOf(int slot, int i) {
-        int before = 0;
-        for (int j = 0; j < places.taken; j++) {
-            int p = places.line[j];
-            if (places.slots[p] == slot && isShown(p)) {
+            if (places.slots[p] == slot && (overToo || isShown(p))) {
                 if (before == i) {
                     return p;
                 }

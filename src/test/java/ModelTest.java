@@ -1,6 +1,9 @@
 import java.util.Random;
 
-/** Long runs of mixed calls, each answer compared with the model's; the seeds are fixed, so a run can be had again. */
+/**
+ * Long runs of mixed calls, each answer compared with the model's; the seeds are fixed, so a run can be had again.
+ * A run and what is asked at its end go beyond 512 calls: the document leaves that free, but here nothing changes then.
+ */
 public final class ModelTest {
     private static final int RUNS = 400;
     private static final int CALLS = 512;

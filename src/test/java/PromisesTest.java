@@ -574,6 +574,8 @@ public final class PromisesTest {
         due("what was left", x.left(0, 7, 0), 30);
         due("what was left", x.left(0, 7, 1), 50);
         due("what was left", x.left(1, 2, 3), 6);
+        due("numbers", x.get(1, 2, 3), 13);
+        due("numbers", x.get(1, 2, 8), 12);
         due("end", x.next(0), 90);
         due("end", x.next(1), 16);
         due("spans stay", x.setting(1, 20, true), 99);
@@ -666,7 +668,7 @@ public final class PromisesTest {
         due("the last", x.row(149, 3), 150);
         due("no more", x.row(150, 3), NONE);
         due("sweep", x.sweep(49), 49);
-        for (int i = 0; i < 150; i++) {
+        for (int i = 0; i < 150; i += 7) {
             dueRow(x, i, 0, (i + 50) % 100, (i + 50) / 100, i + 50, 1);
         }
         due("kept", x.count(3), 150);
