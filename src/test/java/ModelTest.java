@@ -7,6 +7,8 @@ import java.util.Random;
 public final class ModelTest {
     private static final int RUNS = 400;
     private static final int CALLS = 512;
+    private static final int WILD_RUNS = 20;
+    private static final int WILD_CALLS = 5000;
     private static final int[] ODD = {-1, 0, 1, 2, 3, 5, 6, 9, 10, 11, 99, 100, 149, 150, 199, 200, 201, 100000,
         100001, 1000000000, 1000000001, Integer.MIN_VALUE, Integer.MAX_VALUE};
     private static final Check CHECK = new Check("ModelTest");
@@ -18,9 +20,11 @@ public final class ModelTest {
     private final int keys;
     private final int span;
     private final int hurry;
+    private final int oddEvery;
 
-    private ModelTest(int seed) {
+    private ModelTest(int seed, int oddEvery) {
         random = new Random(seed);
+        this.oddEvery = oddEvery;
         keys = 1 + random.nextInt(seed % 2 == 0 ? 3 : 100);
         span = 1 + random.nextInt(seed % 3 == 0 ? 300 : 20);
         hurry = 2 + random.nextInt(14);
@@ -29,13 +33,18 @@ public final class ModelTest {
     public static void main(String[] args) {
         for (int seed = 0; seed < RUNS && CHECK.wrong() == 0; seed++) {
             CHECK.part("seed " + seed);
-            new ModelTest(seed).run();
+            new ModelTest(seed, 40).run(CALLS);
+        }
+        // No call may throw, for any arguments in any state, however late.
+        for (int seed = 0; seed < WILD_RUNS && CHECK.wrong() == 0; seed++) {
+            CHECK.part("wild seed " + seed);
+            new ModelTest(seed, 2 + seed % 9).run(WILD_CALLS);
         }
         CHECK.end();
     }
 
-    private void run() {
-        for (int n = 0; n < CALLS && CHECK.wrong() == 0; n++) {
+    private void run(int calls) {
+        for (int n = 0; n < calls && CHECK.wrong() == 0; n++) {
             if (n < 4 || random.nextInt(100) == 0) {
                 state();
             } else if (random.nextInt(hurry) == 0) {
@@ -50,7 +59,7 @@ public final class ModelTest {
     }
 
     private int odd(int usual) {
-        return random.nextInt(40) == 0 ? ODD[random.nextInt(ODD.length)] : usual;
+        return random.nextInt(oddEvery) == 0 ? ODD[random.nextInt(ODD.length)] : usual;
     }
 
     private int anyState() {

@@ -1,18 +1,16 @@
-/** Each promise of the document: ordinary inputs, the edges that it names, wrong inputs. */
+/** Promises 1 to 20: a test for each sentence of theirs; the part's name is the promise and the sentence. */
 public final class PromisesTest {
-    private static final int BAD = -1, NO = -2, FULL = -3, NONE = -99999999;
-    private static final int LEAST = Integer.MIN_VALUE, MOST = Integer.MAX_VALUE;
-    private static final int[] NO_KEYS = {-1, 100, LEAST, MOST};
-    private static final int[] NO_MEMBERS = {-1, 10, LEAST, MOST};
+    private static final int BAD = Asked.BAD, NO = Asked.NO, FULL = Asked.FULL, NONE = Asked.NONE;
+    private static final int LEAST = Asked.LEAST, MOST = Asked.MOST;
+    /** With two states, 0 of form 0 and 1 of form 1, these are none: not made yet, beyond the six, below 0. */
+    private static final int[] NO_STATES = {-1, 2, 5, 6, 7, LEAST, MOST};
     private static final Check CHECK = new Check("PromisesTest");
 
     public static void main(String[] args) {
         newObject();
         state();
         put();
-        putWrong();
         get();
-        getByWay();
         remove();
         add();
         at();
@@ -21,765 +19,942 @@ public final class PromisesTest {
         left();
         tick();
         watermark();
-        clocksApart();
         sweep();
         setting();
         mark();
         restore();
-        restoreKeepsTheRest();
         row();
-        rowsOfPut();
-        rowsKept();
         place();
         next();
         count();
-        wrongCallsChangeNothing();
         CHECK.end();
     }
 
-    private static void due(String call, long got, long want) {
-        CHECK.due(call, got, want);
-    }
-
-    /** State 0: numbers, ticks, span 10, way 0. State 1: lists, ticks, span 8, way 0. */
-    private static StateEnds numbersAndLists() {
-        StateEnds x = new StateEnds();
-        due("state 0", x.state(0, 0, 10, 0), 0);
-        due("state 1", x.state(1, 0, 8, 0), 1);
-        return x;
-    }
-
-    private static void fillPlaces(StateEnds x, int state) {
-        for (int k = 0; k < 200; k++) {
-            due("fill " + k, x.put(state, k % 100, k / 100, k), 0);
-        }
-    }
-
-    private static void dueRow(StateEnds x, int i, int... cells) {
-        for (int what = 0; what < cells.length; what++) {
-            due("row(" + i + ", " + what + ")", x.row(i, what), cells[what]);
-        }
+    private static Asked of(int span, int way) {
+        return Asked.ofTwoForms(CHECK, span, way);
     }
 
     private static void newObject() {
-        CHECK.part("promise 1");
-        StateEnds x = new StateEnds();
-        for (int what = 0; what <= 7; what++) {
-            due("count(" + what + ")", x.count(what), 0);
+        CHECK.part("1: No STATES");
+        Asked x = new Asked(CHECK);
+        x.count(0).is(0);
+        for (int s = -1; s <= 6; s++) {
+            x.put(s, 0, 0, 1).is(BAD);
+            x.get(s, 0, 0).is(BAD);
+            x.remove(s, 0, 0).is(BAD);
+            x.add(s, 0, 1).is(BAD);
+            x.at(s, 0, 0).is(BAD);
+            x.clear(s, 0).is(BAD);
+            x.shown(s, 0).is(BAD);
+            x.over(s, 0).is(BAD);
+            x.left(s, 0, 0).is(BAD);
+            x.setting(s, 1).is(BAD);
+            x.place(s, 0, 0).is(BAD);
+            x.next(s).is(BAD);
         }
+        x.state(0, 0, 1, 0).is(0);
+
+        CHECK.part("1: No ENTRIES");
+        x = of(1, 0);
+        x.count(1).is(0);
+        x.count(2).is(0);
+        x.mark(0).is(0);
+        x.tick(1).is(0);
+        x.sweep(200).is(0);
+        x.shown(0, 0).is(0);
+        x.over(1, 0).is(0);
+
+        CHECK.part("1: No ROWS");
+        x = new Asked(CHECK);
+        x.count(3).is(0);
+        x.count(4).is(0);
+        x.row(0, 0).is(NONE);
+        x.row(149, 5).is(NONE);
+
+        CHECK.part("1: No MARKS");
         for (int m = 0; m < 3; m++) {
-            due("restore(" + m + ")", x.restore(m), NO);
+            x.restore(m).is(NO);
         }
-        due("row", x.row(0, 0), NONE);
-        due("put", x.put(0, 0, 0, 1), BAD);
-        due("add", x.add(0, 0, 1), BAD);
-        due("next", x.next(0), BAD);
-        due("sweep", x.sweep(200), 0);
-        StateEnds other = new StateEnds();
-        due("state", x.state(0, 0, 1, 0), 0);
-        due("objects share nothing", other.count(0), 0);
+
+        CHECK.part("1: A new object (beside another one)");
+        Asked other = of(5, 0);
+        other.put(0, 0, 0, 1).is(0);
+        other.mark(0).is(1);
+        other.tick(5).is(1);
+        other.sweep(3).is(1);
+        x = new Asked(CHECK);
+        for (int what = 0; what <= 7; what++) {
+            x.count(what).is(0);
+        }
+        x.restore(0).is(NO);
     }
 
     private static void state() {
-        CHECK.part("promise 2");
-        StateEnds x = new StateEnds();
-        int[] notBits = {-1, 2, LEAST, MOST};
-        for (int n : notBits) {
-            due("form " + n, x.state(n, 0, 1, 0), BAD);
-            due("clock " + n, x.state(0, n, 1, 0), BAD);
-            due("way " + n, x.state(0, 0, 1, n), BAD);
+        CHECK.part("2: A state: its number");
+        Asked x = new Asked(CHECK);
+        x.state(0, 0, 1, 0).is(0);
+        x.state(1, 1, 100000, 1).is(1);
+        x.state(2, 0, 1, 0).is(BAD);
+        x.state(0, 1, 7, 1).is(2);
+        x.count(0).is(3);
+        x.add(1, 0, 5).is(1);
+        x.put(2, 0, 0, 5).is(0);
+        x.watermark(6).is(0);
+        x.get(2, 0, 0).is(5);
+        x.left(2, 0, 0).is(7);
+        x.left(1, 0, 0).is(99994);
+        x.at(1, 0, 0).is(5);
+        x.left(1, 0, 0).is(100000);
+
+        CHECK.part("2: BAD: form, clock, way are not 0, 1");
+        x = new Asked(CHECK);
+        int[] wrong = {-1, 2, LEAST, MOST};
+        for (int n : wrong) {
+            x.state(n, 0, 1, 0).is(BAD);
+            x.state(0, n, 1, 0).is(BAD);
+            x.state(0, 0, 1, n).is(BAD);
         }
-        int[] notSpans = {0, -1, 100001, LEAST, MOST};
-        for (int n : notSpans) {
-            due("span " + n, x.state(0, 0, n, 0), BAD);
+        x.count(0).is(0);
+
+        CHECK.part("2: BAD: span");
+        for (int span : Asked.NO_SPANS) {
+            x.state(0, 0, span, 0).is(BAD);
+            x.state(1, 1, span, 1).is(BAD);
         }
-        due("none made", x.count(0), 0);
+        x.count(0).is(0);
+
+        CHECK.part("2: FULL");
         for (int s = 0; s < 6; s++) {
-            due("state " + s, x.state(s % 2, s / 2 % 2, s < 3 ? 1 : 100000, s / 3), s);
+            x.state(s % 2, s / 2 % 2, 1 + s, s / 3).is(s);
         }
-        due("a seventh", x.state(0, 0, 1, 0), FULL);
-        due("BAD before FULL: form", x.state(2, 0, 1, 0), BAD);
-        due("BAD before FULL: span", x.state(0, 0, 0, 0), BAD);
-        due("six", x.count(0), 6);
-        due("the sixth is of form 1", x.add(5, 0, 1), 1);
-        due("no seventh", x.next(6), BAD);
+        x.state(0, 0, 1, 0).is(FULL);
+        x.state(1, 1, 100000, 1).is(FULL);
+        x.count(0).is(6);
+        x.add(5, 0, 1).is(1);
     }
 
     private static void put() {
-        CHECK.part("promise 3");
-        StateEnds x = numbersAndLists();
-        due("new", x.put(0, 5, 5, 50), 0);
-        due("another key", x.put(0, 0, 0, 51), 0);
-        due("another member", x.put(0, 99, 9, 52), 0);
-        due("tick", x.tick(9), 0);
-        due("shown", x.put(0, 5, 5, -1), 1);
-        due("it is stamped", x.left(0, 5, 5), 10);
-        due("it keeps its place", x.place(0, 5, 5), 0);
-        due("not told", x.count(4), 0);
-        due("tick", x.tick(1), 2);
-        due("over", x.put(0, 0, 0, 53), 0);
-        due("over keeps its place", x.place(0, 0, 0), 1);
-        due("told", x.count(4), 1);
-        due("entries", x.count(1), 3);
-        due("number", x.get(0, 5, 5), -1);
-        due("number", x.get(0, 0, 0), 53);
-        due("remove", x.remove(0, 5, 5), 1);
-        due("put", x.put(0, 7, 7, 1), 0);
-        due("least free place", x.place(0, 7, 7), 0);
-        due("put", x.put(0, 7, 8, 1), 0);
-        due("least free place", x.place(0, 7, 8), 3);
-    }
+        CHECK.part("3: A number is written, in place of the one that is there (which keeps its PLACE)");
+        Asked x = of(10, 0);
+        x.put(0, 0, 0, 1).is(0);
+        x.put(0, 5, 5, 2).is(0);
+        x.put(0, 9, 9, 3).is(0);
+        x.remove(0, 0, 0).is(1);
+        x.put(0, 5, 5, -2).is(1);
+        x.place(0, 5, 5).is(1);
+        x.get(0, 5, 5).is(-2);
+        x.tick(10).is(2);
+        x.put(0, 9, 9, -3).is(0);
+        x.place(0, 9, 9).is(2);
+        x.get(0, 9, 9).is(-3);
+        x.count(1).is(2);
 
-    private static void putWrong() {
-        CHECK.part("promise 3, wrong");
-        StateEnds x = numbersAndLists();
-        int[] noStates = {-1, 1, 2, 6, LEAST, MOST};
-        for (int s : noStates) {
-            due("state " + s, x.put(s, 0, 0, 1), BAD);
+        CHECK.part("3: 1 if that was SHOWN, else 0");
+        x = of(10, 0);
+        x.put(0, 0, 0, 1).is(0);
+        x.put(0, 0, 0, 1).is(1);
+        x.put(0, 0, 1, 1).is(0);
+        x.tick(9).is(0);
+        x.put(0, 0, 0, 1).is(1);
+        x.tick(1).is(1);
+        x.put(0, 0, 1, 1).is(0);
+        x.put(0, 0, 1, 1).is(1);
+        x.remove(0, 0, 1).is(1);
+        x.put(0, 0, 1, 1).is(0);
+        x.tick(10).is(2);
+        x.put(0, 0, 0, 1).is(0);
+        x.tick(100000).is(1);
+        x.put(0, 0, 0, 1).is(0);
+
+        CHECK.part("3: BAD: no such state of form 0, KEY, MEMBER");
+        x = of(10, 0);
+        x.put(1, 0, 0, 1).is(BAD);
+        for (int s : NO_STATES) {
+            x.put(s, 0, 0, 1).is(BAD);
         }
-        for (int k : NO_KEYS) {
-            due("key " + k, x.put(0, k, 0, 1), BAD);
+        for (int k : Asked.NO_KEYS) {
+            x.put(0, k, 0, 1).is(BAD);
         }
-        for (int m : NO_MEMBERS) {
-            due("member " + m, x.put(0, 0, m, 1), BAD);
+        for (int m : Asked.NO_MEMBERS) {
+            x.put(0, 0, m, 1).is(BAD);
         }
-        due("nothing came", x.count(1), 0);
-        fillPlaces(x, 0);
-        due("no place", x.put(0, 0, 2, 1), FULL);
-        due("BAD before FULL", x.put(0, 0, 10, 1), BAD);
-        due("one that is there", x.put(0, 0, 1, 7), 1);
-        due("tick", x.tick(10), 200);
-        due("what is over holds its place", x.put(0, 0, 2, 1), FULL);
-        due("one that is over", x.put(0, 99, 1, 8), 0);
-        due("its place", x.place(0, 99, 1), 199);
-        due("sweep", x.sweep(1), 1);
-        due("a place again", x.put(0, 0, 2, 1), 0);
-        due("it", x.place(0, 0, 2), 0);
+        x.count(1).is(0);
+        x.put(0, 99, 9, 1).is(0);
+        x.put(0, 0, 0, 1).is(0);
+
+        CHECK.part("3: FULL: there is none, and no free PLACE");
+        x = of(10, 0);
+        x.fill(0);
+        x.put(0, 0, 2, 1).is(FULL);
+        x.put(0, 99, 1, 777).is(1);
+        x.remove(0, 99, 1).is(1);
+        x.put(0, 0, 2, 1).is(0);
+        x.place(0, 0, 2).is(199);
+        x.put(0, 99, 1, 1).is(FULL);
+        x.tick(10).is(200);
+        x.put(0, 99, 1, 1).is(FULL);
+        x.put(0, 7, 1, 8).is(0);
+        x.place(0, 7, 1).is(15);
+        x.sweep(1).is(1);
+        x.put(0, 99, 1, 1).is(0);
+        x.place(0, 99, 1).is(0);
+        x.put(0, 0, 0, 1).is(FULL);
     }
 
     private static void get() {
-        CHECK.part("promise 4");
-        StateEnds x = numbersAndLists();
-        due("none", x.get(0, 1, 1), NONE);
-        int[] numbers = {0, 1, -1, -2, -3, NONE, LEAST, MOST};
-        for (int m = 0; m < numbers.length; m++) {
-            due("put", x.put(0, 1, m, numbers[m]), 0);
-            due("get", x.get(0, 1, m), numbers[m]);
-        }
-        due("tick", x.tick(9), 0);
-        due("the last tick", x.get(0, 1, 1), 1);
-        due("way 0: not stamped", x.left(0, 1, 1), 1);
-        due("tick", x.tick(1), 8);
-        due("over, not swept", x.get(0, 1, 1), NONE);
-        due("there yet", x.place(0, 1, 1), 1);
-        due("form 1", x.get(1, 1, 0), BAD);
-        due("state -1", x.get(-1, 1, 0), BAD);
-        due("state 2", x.get(2, 1, 0), BAD);
-        for (int k : NO_KEYS) {
-            due("key " + k, x.get(0, k, 0), BAD);
-        }
-        for (int m : NO_MEMBERS) {
-            due("member " + m, x.get(0, 0, m), BAD);
-        }
-    }
+        CHECK.part("4: what is SHOWN, else NONE");
+        Asked x = of(10, 0);
+        x.get(0, 1, 1).is(NONE);
+        x.put(0, 1, 1, 5).is(0);
+        x.get(0, 1, 1).is(5);
+        x.get(0, 1, 2).is(NONE);
+        x.get(0, 2, 1).is(NONE);
+        x.tick(9).is(0);
+        x.get(0, 1, 1).is(5);
+        x.tick(1).is(1);
+        x.get(0, 1, 1).is(NONE);
+        x.place(0, 1, 1).is(0);
+        x.sweep(1).is(1);
+        x.get(0, 1, 1).is(NONE);
+        x.put(0, 1, 1, 6).is(0);
+        x.remove(0, 1, 1).is(1);
+        x.get(0, 1, 1).is(NONE);
 
-    private static void getByWay() {
-        CHECK.part("promise 4, way 1");
-        StateEnds x = new StateEnds();
-        due("state", x.state(0, 0, 10, 1), 0);
-        due("put", x.put(0, 1, 1, 5), 0);
-        due("put", x.put(0, 1, 2, 6), 0);
-        due("tick", x.tick(9), 0);
-        due("get", x.get(0, 1, 1), 5);
-        due("stamped", x.left(0, 1, 1), 10);
-        due("the other one is not", x.left(0, 1, 2), 1);
-        due("setting", x.setting(0, 4, false), 10);
-        due("get", x.get(0, 1, 1), 5);
-        due("stamped with the span of now", x.left(0, 1, 1), 4);
-        due("tick", x.tick(3), 1);
-        due("what is over", x.get(0, 1, 2), NONE);
-        due("is not stamped", x.held(0, 1, true), 1);
-        due("held, left, place, next do not read", x.left(0, 1, 1), 1);
-        due("held", x.held(0, 1, false), 1);
-        due("place", x.place(0, 1, 1), 0);
-        due("next", x.next(0), 13);
-        due("mark", x.mark(0), 1);
-        due("tick", x.tick(1), 1);
+        CHECK.part("4: BAD (-1): no such state of form 0, KEY, MEMBER");
+        x.add(1, 0, 3).is(1);
+        x.get(1, 0, 0).is(BAD);
+        for (int s : NO_STATES) {
+            x.get(s, 0, 0).is(BAD);
+        }
+        for (int k : Asked.NO_KEYS) {
+            x.get(0, k, 0).is(BAD);
+        }
+        for (int m : Asked.NO_MEMBERS) {
+            x.get(0, 0, m).is(BAD);
+        }
+
+        CHECK.part("4: (It may be these numbers, too.)");
+        int[] numbers = {BAD, NO, FULL, NONE, 0, 1, LEAST, MOST};
+        for (int m = 0; m < numbers.length; m++) {
+            x.put(0, 1, m, numbers[m]).is(0);
+            x.get(0, 1, m).is(numbers[m]);
+            x.put(0, 1, m, numbers[m]).is(1);
+            x.remove(0, 1, m).is(1);
+        }
     }
 
     private static void remove() {
-        CHECK.part("promise 5");
-        StateEnds x = numbersAndLists();
-        due("none", x.remove(0, 1, 1), NO);
-        due("put", x.put(0, 1, 1, 5), 0);
-        due("put", x.put(0, 1, 2, 6), 0);
-        due("shown", x.remove(0, 1, 1), 1);
-        due("it is gone", x.get(0, 1, 1), NONE);
-        due("again", x.remove(0, 1, 1), NO);
-        due("tick", x.tick(10), 1);
-        due("over", x.remove(0, 1, 2), 0);
-        due("again", x.remove(0, 1, 2), NO);
-        due("none is there", x.count(1), 0);
-        due("none told", x.count(4), 0);
-        due("form 1", x.remove(1, 1, 0), BAD);
-        due("state -1", x.remove(-1, 1, 0), BAD);
-        due("state 2", x.remove(2, 1, 0), BAD);
-        for (int k : NO_KEYS) {
-            due("key " + k, x.remove(0, k, 0), BAD);
+        CHECK.part("5: It is removed, whether it is SHOWN or over: 1 if it was SHOWN, else 0");
+        Asked x = of(10, 0);
+        x.put(0, 1, 1, 5).is(0);
+        x.put(0, 1, 2, 6).is(0);
+        x.put(0, 1, 3, 7).is(0);
+        x.tick(9).is(0);
+        x.remove(0, 1, 1).is(1);
+        x.place(0, 1, 1).is(NONE);
+        x.get(0, 1, 2).is(6);
+        x.tick(1).is(2);
+        x.remove(0, 1, 2).is(0);
+        x.place(0, 1, 2).is(NONE);
+        x.place(0, 1, 3).is(2);
+        x.tick(1).is(0);
+        x.remove(0, 1, 3).is(0);
+        x.count(1).is(0);
+        x.count(4).is(0);
+
+        CHECK.part("5: BAD, likewise");
+        x = of(10, 0);
+        x.add(1, 0, 3).is(1);
+        x.remove(1, 0, 0).is(BAD);
+        for (int s : NO_STATES) {
+            x.remove(s, 0, 0).is(BAD);
         }
-        for (int m : NO_MEMBERS) {
-            due("member " + m, x.remove(0, 0, m), BAD);
+        for (int k : Asked.NO_KEYS) {
+            x.remove(0, k, 0).is(BAD);
         }
+        for (int m : Asked.NO_MEMBERS) {
+            x.remove(0, 0, m).is(BAD);
+        }
+        x.count(1).is(1);
+
+        CHECK.part("5: NO: there is none");
+        x = of(10, 0);
+        x.remove(0, 0, 0).is(NO);
+        x.put(0, 0, 0, 1).is(0);
+        x.remove(0, 0, 1).is(NO);
+        x.remove(0, 1, 0).is(NO);
+        x.remove(0, 0, 0).is(1);
+        x.remove(0, 0, 0).is(NO);
+        x.put(0, 0, 0, 1).is(0);
+        x.tick(10).is(1);
+        x.sweep(1).is(1);
+        x.remove(0, 0, 0).is(NO);
     }
 
     private static void add() {
-        CHECK.part("promise 6");
-        StateEnds x = numbersAndLists();
-        due("first", x.add(1, 4, 7), 1);
-        due("equal numbers", x.add(1, 4, 7), 2);
-        due("another key", x.add(1, 5, 9), 1);
-        due("tick", x.tick(7), 0);
-        due("third", x.add(1, 4, 8), 3);
-        due("tick", x.tick(1), 3);
-        due("only the shown ones count", x.add(1, 4, 9), 2);
-        due("what is over stays", x.count(1), 5);
-        due("none told", x.count(4), 0);
-        due("form 0", x.add(0, 4, 1), BAD);
-        due("state -1", x.add(-1, 4, 1), BAD);
-        due("state 2", x.add(2, 4, 1), BAD);
-        for (int k : NO_KEYS) {
-            due("key " + k, x.add(1, k, 1), BAD);
+        CHECK.part("6: A number comes to the end of a LIST: how many of it are SHOWN then");
+        Asked x = of(10, 0);
+        x.add(1, 4, NONE).is(1);
+        x.add(1, 4, 7).is(2);
+        x.add(1, 4, 7).is(3);
+        x.add(1, 5, 9).is(1);
+        x.put(0, 4, 0, 1).is(0);
+        x.at(1, 4, 0).is(NONE);
+        x.at(1, 4, 1).is(7);
+        x.tick(9).is(0);
+        x.add(1, 4, 8).is(4);
+        x.tick(1).is(5);
+        x.add(1, 4, 9).is(2);
+        x.at(1, 4, 0).is(8);
+        x.at(1, 4, 1).is(9);
+        x.place(1, 4, 4).is(6);
+        x.clear(1, 4).is(2);
+        x.add(1, 4, 1).is(1);
+
+        CHECK.part("6: BAD: no such state of form 1, KEY");
+        x = of(10, 0);
+        x.add(0, 4, 1).is(BAD);
+        for (int s : NO_STATES) {
+            x.add(s, 4, 1).is(BAD);
         }
-        for (int n = 5; n < 200; n++) {
-            due("add", x.add(1, 6, n), n - 4);
+        for (int k : Asked.NO_KEYS) {
+            x.add(1, k, 1).is(BAD);
         }
-        due("no place", x.add(1, 6, 1), FULL);
-        due("no place, though some are over", x.add(1, 4, 1), FULL);
-        due("BAD before FULL", x.add(1, 100, 1), BAD);
-        due("sweep", x.sweep(200), 3);
-        due("add", x.add(1, 4, 1), 3);
-        due("into the least place", x.place(1, 4, 2), 0);
+        x.count(1).is(0);
+        x.add(1, 0, 1).is(1);
+        x.add(1, 99, 1).is(1);
+
+        CHECK.part("6: FULL: no free PLACE");
+        x = of(10, 0);
+        for (int n = 0; n < 200; n++) {
+            x.add(1, 6, n).is(n + 1);
+        }
+        x.add(1, 6, 1).is(FULL);
+        x.add(1, 7, 1).is(FULL);
+        x.at(1, 6, 199).is(199);
+        x.at(1, 6, 200).is(NONE);
+        x.tick(10).is(200);
+        x.add(1, 6, 1).is(FULL);
+        x.sweep(1).is(1);
+        x.add(1, 6, 1).is(1);
+        x.place(1, 6, 199).is(0);
+        x.add(1, 6, 1).is(FULL);
     }
 
     private static void at() {
-        CHECK.part("promise 7");
-        StateEnds x = new StateEnds();
-        due("state 0", x.state(1, 0, 10, 1), 0);
-        due("state 1", x.state(1, 0, 10, 0), 1);
-        due("state 2", x.state(0, 0, 10, 0), 2);
-        due("empty", x.at(0, 0, 0), NONE);
+        CHECK.part("7: The i-th SHOWN one of a LIST is read");
+        Asked x = of(10, 1);
         for (int n = 0; n < 12; n++) {
-            due("add", x.add(0, 0, -n), n + 1);
-            due("add", x.add(1, 0, n), n + 1);
+            x.add(1, 0, -n).is(n + 1);
         }
-        due("the twelfth", x.at(0, 0, 11), -11);
-        due("not so many", x.at(0, 0, 12), NONE);
-        due("not so many", x.at(0, 0, MOST), NONE);
-        due("below 0", x.at(0, 0, -1), NONE);
-        due("below 0", x.at(0, 0, LEAST), NONE);
-        due("tick", x.tick(9), 0);
-        due("read", x.at(0, 0, 3), -3);
-        due("stamped", x.left(0, 0, 3), 10);
-        due("the one before is not", x.left(0, 0, 2), 1);
-        due("way 0", x.at(1, 0, 3), 3);
-        due("not stamped", x.left(1, 0, 3), 1);
-        due("tick", x.tick(1), 23);
-        due("the first that is shown", x.at(0, 0, 0), -3);
-        due("no second", x.at(0, 0, 1), NONE);
-        due("none of it", x.at(1, 0, 0), NONE);
-        due("form 0", x.at(2, 0, 0), BAD);
-        due("state -1", x.at(-1, 0, 0), BAD);
-        due("state 3", x.at(3, 0, 0), BAD);
-        for (int k : NO_KEYS) {
-            due("key " + k, x.at(0, k, 0), BAD);
+        x.at(1, 0, 0).is(0);
+        x.at(1, 0, 11).is(-11);
+        x.tick(9).is(0);
+        x.at(1, 0, 3).is(-3);
+        x.at(1, 0, 7).is(-7);
+        x.tick(1).is(10);
+        x.at(1, 0, 0).is(-3);
+        x.at(1, 0, 1).is(-7);
+
+        CHECK.part("7: NONE: there are not so many");
+        x.at(1, 0, 2).is(NONE);
+        x.at(1, 0, 11).is(NONE);
+        x.at(1, 0, MOST).is(NONE);
+        x.at(1, 0, -1).is(NONE);
+        x.at(1, 0, LEAST).is(NONE);
+        x.at(1, 1, 0).is(NONE);
+        x.tick(10).is(2);
+        x.at(1, 0, 0).is(NONE);
+
+        CHECK.part("7: BAD (-1): no such state of form 1, KEY");
+        x.put(0, 0, 0, 1).is(0);
+        x.at(0, 0, 0).is(BAD);
+        x.at(0, 0, -1).is(BAD);
+        for (int s : NO_STATES) {
+            x.at(s, 0, 0).is(BAD);
+        }
+        for (int k : Asked.NO_KEYS) {
+            x.at(1, k, 0).is(BAD);
         }
     }
 
     private static void clear() {
-        CHECK.part("promise 8");
-        StateEnds x = numbersAndLists();
-        due("nothing there", x.clear(0, 1), 0);
-        due("put", x.put(0, 1, 0, 1), 0);
-        due("put", x.put(0, 2, 0, 2), 0);
-        due("add", x.add(1, 1, 3), 1);
-        due("tick", x.tick(5), 0);
-        due("put", x.put(0, 1, 9, 4), 0);
-        due("add", x.add(1, 1, 5), 2);
-        due("tick", x.tick(5), 3);
-        due("form 0: one is over", x.clear(0, 1), 1);
-        due("the over one went too", x.held(0, 1, true), 0);
-        due("the other key stays", x.held(0, 2, true), 1);
-        due("the other state stays", x.held(1, 1, true), 1);
-        due("form 1: one is over", x.clear(1, 1), 1);
-        due("it is empty", x.place(1, 1, 0), NONE);
-        due("entries", x.count(1), 1);
-        due("none told", x.count(4), 0);
-        due("state -1", x.clear(-1, 0), BAD);
-        due("state 2", x.clear(2, 0), BAD);
-        for (int k : NO_KEYS) {
-            due("key " + k, x.clear(0, k), BAD);
+        CHECK.part("8: All of a KEY is removed: how many were SHOWN");
+        Asked x = of(10, 0);
+        x.clear(0, 1).is(0);
+        x.clear(1, 1).is(0);
+        for (int m = 0; m < 10; m++) {
+            x.put(0, 1, m, m).is(0);
         }
+        x.put(0, 0, 9, 1).is(0);
+        x.put(0, 2, 0, 2).is(0);
+        x.add(1, 1, 3).is(1);
+        x.add(1, 1, 4).is(2);
+        x.add(1, 2, 5).is(1);
+        x.tick(9).is(0);
+        x.put(0, 1, 0, 1).is(1);
+        x.put(0, 1, 9, 1).is(1);
+        x.add(1, 1, 5).is(3);
+        x.tick(1).is(13);
+        x.clear(0, 1).is(2);
+        x.over(0, 1).is(0);
+        x.shown(0, 1).is(0);
+        x.over(0, 0).is(1);
+        x.over(0, 2).is(1);
+        x.over(1, 1).is(2);
+        x.clear(1, 1).is(1);
+        x.place(1, 1, 0).is(NONE);
+        x.over(1, 2).is(1);
+        x.count(1).is(3);
+        x.count(4).is(0);
+        x.clear(0, 0).is(0);
+        x.clear(0, 0).is(0);
+        x.count(1).is(2);
+
+        CHECK.part("8: All of a KEY is removed (of all PLACES)");
+        x = of(10, 0);
+        for (int n = 0; n < 200; n++) {
+            x.add(1, 99, n).is(n + 1);
+        }
+        x.clear(1, 99).is(200);
+        x.count(1).is(0);
+        x.add(1, 99, 1).is(1);
+        x.place(1, 99, 0).is(0);
+
+        CHECK.part("8: BAD: no such state, KEY");
+        for (int s : NO_STATES) {
+            x.clear(s, 0).is(BAD);
+        }
+        for (int k : Asked.NO_KEYS) {
+            x.clear(0, k).is(BAD);
+            x.clear(1, k).is(BAD);
+        }
+        x.count(1).is(1);
     }
 
     private static void held() {
-        CHECK.part("promise 9");
-        StateEnds x = numbersAndLists();
-        due("nothing", x.held(0, 1, false), 0);
-        due("nothing", x.held(0, 1, true), 0);
+        CHECK.part("9: How many ENTRIES of a KEY are SHOWN (over = false), or over and there yet");
+        Asked x = of(10, 0);
+        x.shown(0, 1).is(0);
+        x.over(0, 1).is(0);
         for (int m = 0; m < 10; m++) {
-            due("put", x.put(0, 1, m, m), 0);
-            due("tick", x.tick(1), m == 9 ? 1 : 0);
+            x.put(0, 1, m, m).is(0);
+            x.tick(1).is(m == 9 ? 1 : 0);
         }
-        due("put", x.put(0, 0, 9, 1), 0);
-        due("put", x.put(0, 2, 0, 1), 0);
-        due("shown", x.held(0, 1, false), 9);
-        due("over", x.held(0, 1, true), 1);
-        due("sweep", x.sweep(200), 1);
-        due("over and there yet", x.held(0, 1, true), 0);
-        due("add", x.add(1, 99, 1), 1);
-        due("a list", x.held(1, 99, false), 1);
-        due("tick", x.tick(8), 9);
-        due("a list", x.held(1, 99, true), 1);
-        due("state -1", x.held(-1, 0, false), BAD);
-        due("state 2", x.held(2, 0, true), BAD);
-        for (int k : NO_KEYS) {
-            due("key " + k, x.held(0, k, false), BAD);
+        x.put(0, 0, 9, 1).is(0);
+        x.put(0, 2, 0, 1).is(0);
+        x.add(1, 1, 1).is(1);
+        x.shown(0, 1).is(9);
+        x.over(0, 1).is(1);
+        x.tick(1).is(1);
+        x.shown(0, 1).is(8);
+        x.over(0, 1).is(2);
+        x.sweep(1).is(1);
+        x.over(0, 1).is(1);
+        x.put(0, 1, 1, 1).is(0);
+        x.over(0, 1).is(0);
+        x.shown(0, 1).is(9);
+        x.shown(1, 1).is(1);
+        x.tick(9).is(11);
+        x.shown(1, 1).is(0);
+        x.over(1, 1).is(1);
+        x.over(0, 1).is(8);
+        x.shown(0, 1).is(1);
+
+        CHECK.part("9: BAD: no such state, KEY");
+        for (int s : NO_STATES) {
+            x.shown(s, 0).is(BAD);
+            x.over(s, 0).is(BAD);
+        }
+        for (int k : Asked.NO_KEYS) {
+            x.shown(0, k).is(BAD);
+            x.over(0, k).is(BAD);
+            x.shown(1, k).is(BAD);
+            x.over(1, k).is(BAD);
         }
     }
 
     private static void left() {
-        CHECK.part("promise 10");
-        StateEnds x = numbersAndLists();
-        due("none", x.left(0, 1, 9), NONE);
-        due("none", x.left(1, 1, 0), NONE);
-        due("put", x.put(0, 1, 9, 1), 0);
-        due("all", x.left(0, 1, 9), 10);
-        due("tick", x.tick(9), 0);
-        due("one", x.left(0, 1, 9), 1);
+        CHECK.part("10: Of what is SHOWN for a KEY and MEMBER, what is left: END less clock");
+        Asked x = new Asked(CHECK);
+        x.state(0, 1, 10, 0).is(0);
+        x.state(1, 0, 10, 0).is(1);
+        x.watermark(100).is(0);
+        x.put(0, 1, 9, 1).is(0);
+        x.left(0, 1, 9).is(10);
+        x.watermark(109).is(0);
+        x.left(0, 1, 9).is(1);
+        x.tick(5).is(0);
+        x.left(0, 1, 9).is(1);
+
+        CHECK.part("10: (in a LIST: the i-th one, MEMBER being i)");
         for (int n = 0; n < 11; n++) {
-            due("add", x.add(1, 1, n), n + 1);
+            x.add(1, 1, n).is(n + 1);
         }
-        due("tick", x.tick(1), 1);
-        due("over", x.left(0, 1, 9), NONE);
-        due("an index above 9", x.left(1, 1, 10), 7);
-        due("not so many", x.left(1, 1, 11), NONE);
-        due("not so many", x.left(1, 1, MOST), NONE);
-        due("add", x.add(1, 1, 12), 12);
-        due("tick", x.tick(7), 11);
-        due("the shown ones are counted", x.left(1, 1, 0), 1);
-        due("no second", x.left(1, 1, 1), NONE);
-        due("list, below 0", x.left(1, 1, -1), BAD);
-        due("list, below 0", x.left(1, 1, LEAST), BAD);
-        for (int m : NO_MEMBERS) {
-            due("member " + m, x.left(0, 1, m), BAD);
+        x.tick(9).is(0);
+        x.add(1, 1, 11).is(12);
+        x.left(1, 1, 0).is(1);
+        x.left(1, 1, 10).is(1);
+        x.left(1, 1, 11).is(10);
+        x.tick(1).is(11);
+        x.left(1, 1, 0).is(9);
+
+        CHECK.part("10: NONE: none is");
+        x.left(1, 1, 1).is(NONE);
+        x.left(1, 1, 11).is(NONE);
+        x.left(1, 1, MOST).is(NONE);
+        x.left(1, 2, 0).is(NONE);
+        x.left(0, 1, 8).is(NONE);
+        x.left(0, 2, 9).is(NONE);
+        x.watermark(110).is(1);
+        x.left(0, 1, 9).is(NONE);
+
+        CHECK.part("10: BAD (-1): no such state, KEY; below 0 or above 9 (form 0)");
+        for (int s : NO_STATES) {
+            x.left(s, 0, 0).is(BAD);
         }
-        due("state -1", x.left(-1, 1, 0), BAD);
-        due("state 2", x.left(2, 1, 0), BAD);
-        for (int k : NO_KEYS) {
-            due("key " + k, x.left(1, k, 0), BAD);
+        for (int k : Asked.NO_KEYS) {
+            x.left(0, k, 0).is(BAD);
+            x.left(1, k, 0).is(BAD);
         }
+        for (int m : Asked.NO_MEMBERS) {
+            x.left(0, 1, m).is(BAD);
+        }
+        x.left(1, 1, -1).is(BAD);
+        x.left(1, 1, LEAST).is(BAD);
+        x.left(1, 1, 10).is(NONE);
+
+        CHECK.part("10: (It is not read.)");
+        x = of(10, 1);
+        x.put(0, 0, 0, 1).is(0);
+        x.add(1, 0, 1).is(1);
+        x.tick(9).is(0);
+        x.left(0, 0, 0).is(1);
+        x.left(0, 0, 0).is(1);
+        x.left(1, 0, 0).is(1);
+        x.tick(1).is(2);
     }
 
     private static void tick() {
-        CHECK.part("promise 11");
-        StateEnds x = numbersAndLists();
+        CHECK.part("11: n TICKS go by: how many ENTRIES became over by it");
+        Asked x = new Asked(CHECK);
+        x.state(0, 0, 10, 0).is(0);
+        x.state(1, 0, 12, 0).is(1);
+        x.state(0, 1, 1, 0).is(2);
+        x.put(0, 0, 0, 1).is(0);
+        x.add(1, 0, 1).is(1);
+        x.add(1, 0, 1).is(2);
+        x.put(2, 0, 0, 1).is(0);
+        x.tick(1).is(0);
+        x.count(5).is(1);
+        x.tick(8).is(0);
+        x.tick(1).is(1);
+        x.tick(1).is(0);
+        x.tick(1).is(2);
+        x.tick(1).is(0);
+        x.get(2, 0, 0).is(1);
+        x.put(0, 0, 0, 1).is(0);
+        x.add(1, 0, 1).is(1);
+        x.settingAll(1, 1).is(12);
+        x.tick(100000).is(2);
+        x.count(5).is(100013);
+        x.count(6).is(0);
+
+        CHECK.part("11: BAD: n is not 1 .. 100000");
+        x = of(10, 0);
         int[] wrong = {0, -1, 100001, LEAST, MOST};
         for (int n : wrong) {
-            due("tick " + n, x.tick(n), BAD);
+            x.tick(n).is(BAD);
         }
-        due("no tick went by", x.count(5), 0);
-        due("put", x.put(0, 0, 0, 1), 0);
-        due("add", x.add(1, 0, 1), 1);
-        due("tick", x.tick(7), 0);
-        due("tick", x.tick(1), 1);
-        due("tick", x.tick(1), 0);
-        due("tick", x.tick(1), 1);
-        due("ticks", x.count(5), 10);
-        due("the most", x.tick(100000), 0);
-        due("ticks", x.count(5), 100010);
-        // More than 512 calls, so the document leaves these answers free: they pin what stands here.
-        StateEnds old = new StateEnds();
-        for (int n = 0; n < 10000; n++) {
-            old.tick(100000);
+        x.count(5).is(0);
+        x.tick(1).is(0);
+        x.tick(100000).is(0);
+        x.count(5).is(100001);
+        tooManyTicks();
+    }
+
+    /** Ten thousand calls: the document promises nothing so late, but the sentence can't be met sooner. */
+    private static void tooManyTicks() {
+        CHECK.part("11: NO: the TICKS would be more than 1000000000");
+        StateEnds x = new StateEnds();
+        CHECK.due("state", x.state(0, 0, 100000, 0), 0);
+        for (int n = 1; n < 10000; n++) {
+            CHECK.due("tick", x.tick(100000), 0);
         }
-        due("the last tick", old.count(5), 1000000000);
-        due("one more", old.tick(1), NO);
-        due("BAD before NO", old.tick(0), BAD);
-        due("it stays", old.count(5), 1000000000);
+        CHECK.due("one less", x.tick(99999), 0);
+        CHECK.due("put", x.put(0, 0, 0, 1), 0);
+        CHECK.due("one too many", x.tick(2), NO);
+        CHECK.due("many too many", x.tick(100000), NO);
+        CHECK.due("it stays", x.count(5), 999999999);
+        CHECK.due("the last one", x.tick(1), 0);
+        CHECK.due("it is reached", x.count(5), 1000000000);
+        CHECK.due("one more", x.tick(1), NO);
+        CHECK.due("BAD before NO", x.tick(0), BAD);
+        CHECK.due("BAD before NO", x.tick(100001), BAD);
+        CHECK.due("it stays", x.count(5), 1000000000);
+        CHECK.due("it is shown", x.left(0, 0, 0), 99999);
     }
 
     private static void watermark() {
-        CHECK.part("promise 12");
-        StateEnds x = new StateEnds();
-        due("state", x.state(0, 1, 100000, 0), 0);
+        CHECK.part("12: THE WATERMARK comes to t: how many ENTRIES became over by it");
+        Asked x = new Asked(CHECK);
+        x.state(0, 1, 10, 0).is(0);
+        x.state(1, 1, 12, 0).is(1);
+        x.state(0, 0, 1, 0).is(2);
+        x.put(0, 0, 0, 1).is(0);
+        x.add(1, 0, 1).is(1);
+        x.add(1, 0, 1).is(2);
+        x.put(2, 0, 0, 1).is(0);
+        x.watermark(9).is(0);
+        x.count(6).is(9);
+        x.watermark(10).is(1);
+        x.watermark(10).is(0);
+        x.watermark(11).is(0);
+        x.watermark(12).is(2);
+        x.get(2, 0, 0).is(1);
+        x.put(0, 0, 0, 1).is(0);
+        x.watermark(500000000).is(1);
+        x.count(6).is(500000000);
+        x.count(5).is(0);
+
+        CHECK.part("12: BAD: t is not 0 .. 1000000000");
+        x = of(10, 0);
         int[] wrong = {-1, 1000000001, LEAST, MOST};
         for (int t : wrong) {
-            due("watermark " + t, x.watermark(t), BAD);
+            x.watermark(t).is(BAD);
         }
-        due("put", x.put(0, 0, 0, 1), 0);
-        due("0", x.watermark(0), 0);
-        due("below the end", x.watermark(99999), 0);
-        due("put", x.put(0, 0, 1, 1), 0);
-        due("at the end", x.watermark(100000), 1);
-        due("the same", x.watermark(100000), 0);
-        due("below", x.watermark(99999), NO);
-        due("0", x.watermark(0), NO);
-        due("BAD before NO", x.watermark(-1), BAD);
-        due("it stays", x.count(6), 100000);
-        due("the last", x.watermark(1000000000), 1);
-        due("the last again", x.watermark(1000000000), 0);
-        due("beyond", x.watermark(1000000001), BAD);
-        due("put", x.put(0, 0, 2, 1), 0);
-        due("it ends beyond", x.next(0), 1000100000);
-        due("it", x.left(0, 0, 2), 100000);
-    }
+        x.count(6).is(0);
+        x.watermark(0).is(0);
+        x.watermark(1000000000).is(0);
+        x.count(6).is(1000000000);
+        for (int t : wrong) {
+            x.watermark(t).is(BAD);
+        }
+        x.watermark(1000000000).is(0);
 
-    private static void clocksApart() {
-        CHECK.part("promises 11 and 12, two clocks");
-        StateEnds x = new StateEnds();
-        due("state 0", x.state(0, 0, 5, 0), 0);
-        due("state 1", x.state(0, 1, 5, 0), 1);
-        due("put", x.put(0, 0, 0, 1), 0);
-        due("put", x.put(1, 0, 0, 2), 0);
-        due("tick", x.tick(4), 0);
-        due("watermark", x.watermark(5), 1);
-        due("ticks", x.get(0, 0, 0), 1);
-        due("watermark", x.get(1, 0, 0), NONE);
-        due("tick", x.tick(1), 1);
-        due("ticks", x.get(0, 0, 0), NONE);
-        due("sweep", x.sweep(2), 2);
-        dueRow(x, 0, 0, 0, 0, 1, 5, 5);
-        dueRow(x, 1, 1, 0, 0, 2, 5, 5);
+        CHECK.part("12: NO: it is above that");
+        x = of(10, 0);
+        x.watermark(0).is(0);
+        x.watermark(1).is(0);
+        x.watermark(0).is(NO);
+        x.watermark(70).is(0);
+        x.watermark(69).is(NO);
+        x.count(6).is(70);
+        x.watermark(70).is(0);
+        x.watermark(71).is(0);
+        x.watermark(1000000000).is(0);
+        x.watermark(999999999).is(NO);
+        x.count(6).is(1000000000);
     }
 
     private static void sweep() {
-        CHECK.part("promise 13");
-        StateEnds x = numbersAndLists();
+        CHECK.part("13: A SWEEP: how many ENTRIES went");
+        Asked x = of(10, 0);
+        x.sweep(1).is(0);
+        x.sweep(199).is(0);
+        for (int k = 0; k < 4; k++) {
+            x.put(0, k, 0, k).is(0);
+            x.tick(1).is(0);
+        }
+        x.add(1, 0, 9).is(1);
+        x.tick(7).is(2);
+        x.sweep(200).is(2);
+        x.count(1).is(3);
+        x.sweep(200).is(0);
+        x.tick(2).is(2);
+        x.sweep(4).is(2);
+        x.count(1).is(1);
+        x.count(7).is(4);
+        x.get(0, 3, 0).is(NONE);
+        x.at(1, 0, 0).is(9);
+        x.tick(1).is(1);
+        x.sweep(1).is(1);
+        x.count(4).is(5);
+
+        CHECK.part("13: BAD: n is not 1 .. 200");
+        x = of(1, 0);
+        x.put(0, 0, 0, 1).is(0);
+        x.tick(1).is(1);
         int[] wrong = {0, -1, 201, LEAST, MOST};
         for (int n : wrong) {
-            due("sweep " + n, x.sweep(n), BAD);
+            x.sweep(n).is(BAD);
         }
-        due("it did not move", x.count(7), 0);
-        fillPlaces(x, 0);
-        due("nothing is over", x.sweep(200), 0);
-        due("it comes round", x.count(7), 0);
-        due("tick", x.tick(10), 200);
-        due("put", x.put(0, 2, 0, 9), 0);
-        due("a slice", x.sweep(3), 2);
-        due("it ended", x.count(7), 3);
-        due("a slice", x.sweep(195), 195);
-        due("it ended", x.count(7), 198);
-        due("put", x.put(0, 0, 5, 10), 0);
-        due("into place 0", x.place(0, 0, 5), 0);
-        due("tick", x.tick(10), 2);
-        due("round the end", x.sweep(3), 3);
-        due("it ended", x.count(7), 1);
-        due("order of the rows", x.row(147, 3), 198);
-        due("order of the rows", x.row(148, 3), 199);
-        due("order of the rows", x.row(149, 3), 10);
-        due("the last", x.sweep(200), 1);
-        due("each is told once", x.count(4), 202);
-        due("again", x.sweep(200), 0);
-        due("each is told once", x.count(4), 202);
-        due("all are gone", x.count(1), 0);
+        x.count(7).is(0);
+        x.count(4).is(0);
+        x.sweep(1).is(1);
+        x.sweep(200).is(0);
+        x.count(7).is(1);
     }
 
     private static void setting() {
-        CHECK.part("promise 14");
-        StateEnds x = numbersAndLists();
-        due("put", x.put(0, 0, 0, 1), 0);
-        due("tick", x.tick(4), 0);
-        due("put", x.put(0, 0, 1, 2), 0);
-        due("add", x.add(1, 0, 3), 1);
-        due("from now on", x.setting(0, 3, false), 10);
-        due("entries stay", x.left(0, 0, 0), 6);
-        due("entries stay", x.left(0, 0, 1), 10);
-        due("put", x.put(0, 0, 2, 4), 0);
-        due("the span of now", x.left(0, 0, 2), 3);
-        due("with all", x.setting(0, 4, true), 3);
-        due("over by it", x.get(0, 0, 0), NONE);
-        due("over and there", x.held(0, 0, true), 1);
-        due("stamp and span", x.left(0, 0, 1), 4);
-        due("stamp and span", x.left(0, 0, 2), 4);
-        due("another state stays", x.left(1, 0, 0), 8);
-        due("with all", x.setting(0, 100000, true), 4);
-        due("over stays over", x.get(0, 0, 0), NONE);
-        due("stamp and span", x.left(0, 0, 1), 100000);
-        due("sweep", x.sweep(200), 1);
-        dueRow(x, 0, 0, 0, 0, 1, 4, 4);
-        int[] notSpans = {0, -1, 100001, LEAST, MOST};
-        for (int n : notSpans) {
-            due("span " + n, x.setting(0, n, true), BAD);
+        CHECK.part("14: A SETTING: the SPAN that was");
+        Asked x = of(10, 0);
+        x.setting(0, 1).is(10);
+        x.settingAll(0, 100000).is(1);
+        x.settingAll(0, 100000).is(100000);
+        x.setting(0, 7).is(100000);
+        x.setting(1, 8).is(10);
+        x.setting(0, 7).is(7);
+
+        CHECK.part("14: BAD: no such state");
+        for (int s : NO_STATES) {
+            x.setting(s, 5).is(BAD);
+            x.settingAll(s, 5).is(BAD);
         }
-        due("state -1", x.setting(-1, 5, true), BAD);
-        due("state 2", x.setting(2, 5, false), BAD);
-        due("it stays", x.setting(0, 1, false), 100000);
-        due("the other state's span stays", x.setting(1, 1, false), 8);
+
+        CHECK.part("14: BAD: span");
+        x.put(0, 0, 0, 1).is(0);
+        for (int span : Asked.NO_SPANS) {
+            x.setting(0, span).is(BAD);
+            x.settingAll(0, span).is(BAD);
+        }
+        x.left(0, 0, 0).is(7);
+        x.setting(0, 7).is(7);
+        x.setting(1, 8).is(8);
     }
 
     private static void mark() {
-        CHECK.part("promise 15");
-        StateEnds x = numbersAndLists();
-        int[] wrong = {-1, 3, LEAST, MOST};
-        for (int m : wrong) {
-            due("mark " + m, x.mark(m), BAD);
+        CHECK.part("15: A MARK (0 .. 2) is made, in place of one that was: how many ENTRIES");
+        Asked x = of(10, 0);
+        x.mark(0).is(0);
+        x.put(0, 0, 0, 1).is(0);
+        x.add(1, 0, 2).is(1);
+        x.add(1, 0, 3).is(2);
+        x.mark(1).is(3);
+        x.mark(2).is(3);
+        x.count(1).is(3);
+        x.tick(5).is(0);
+        x.put(0, 5, 5, 4).is(0);
+        x.tick(5).is(3);
+        x.mark(1).is(1);
+        x.count(1).is(4);
+        x.restore(1).is(1);
+        x.place(0, 5, 5).is(0);
+        x.place(1, 0, 0).is(NONE);
+        x.restore(2).is(3);
+        x.mark(0).is(3);
+        x.clear(0, 0).is(1);
+        x.restore(0).is(3);
+        x.get(0, 0, 0).is(1);
+
+        CHECK.part("15: BAD: no such number");
+        for (int m : Asked.NO_MARKS) {
+            x.mark(m).is(BAD);
         }
-        due("nothing to keep", x.mark(0), 0);
-        due("it was made", x.restore(0), 0);
-        due("put", x.put(0, 0, 0, 1), 0);
-        due("tick", x.tick(5), 0);
-        due("add", x.add(1, 0, 2), 1);
-        due("both", x.mark(2), 2);
-        due("tick", x.tick(5), 1);
-        due("only the shown one", x.mark(1), 1);
-        due("nothing changed", x.count(1), 2);
-        due("remove", x.clear(1, 0), 1);
-        due("a mark keeps what it has", x.restore(2), 2);
-        due("put", x.put(0, 5, 5, 3), 0);
-        due("in place of one that was", x.mark(2), 3);
-        due("restore", x.restore(1), 1);
-        due("restore", x.restore(2), 3);
-        due("restore", x.restore(0), 0);
+        x.restore(0).is(3);
     }
 
     private static void restore() {
-        CHECK.part("promise 16");
-        StateEnds x = new StateEnds();
-        due("state 0", x.state(1, 1, 50, 1), 0);
-        due("state 1", x.state(0, 0, 10, 0), 1);
-        due("put", x.put(1, 9, 1, 11), 0);
-        due("put", x.put(1, 2, 8, 12), 0);
-        due("put", x.put(1, 2, 3, 13), 0);
-        due("remove", x.remove(1, 9, 1), 1);
-        due("add", x.add(0, 7, 21), 1);
-        due("add", x.add(0, 7, 22), 2);
-        due("add", x.add(0, 6, 23), 1);
-        due("tick", x.tick(4), 0);
-        due("watermark", x.watermark(20), 0);
-        due("read", x.at(0, 7, 1), 22);
-        due("mark", x.mark(1), 5);
-        due("setting", x.setting(1, 99, false), 10);
-        due("tick", x.tick(6), 2);
-        due("sweep", x.sweep(3), 2);
-        due("watermark", x.watermark(60), 2);
-        due("put", x.put(1, 50, 5, 14), 0);
-        due("restore", x.restore(1), 5);
-        due("the next sweep begins at 0", x.count(7), 0);
-        due("keys in order", x.place(0, 6, 0), 0);
-        due("a list as it stands", x.place(0, 7, 0), 1);
-        due("a list as it stands", x.place(0, 7, 1), 2);
-        due("members in order", x.place(1, 2, 3), 3);
-        due("members in order", x.place(1, 2, 8), 4);
-        due("what came later is gone", x.place(1, 50, 5), NONE);
-        due("what was left", x.left(0, 7, 0), 30);
-        due("what was left", x.left(0, 7, 1), 50);
-        due("what was left", x.left(1, 2, 3), 6);
-        due("numbers", x.get(1, 2, 3), 13);
-        due("numbers", x.get(1, 2, 8), 12);
-        due("end", x.next(0), 90);
-        due("end", x.next(1), 16);
-        due("spans stay", x.setting(1, 20, true), 99);
-        due("the clock of now is the stamp", x.left(1, 2, 3), 20);
-        due("add", x.add(0, 7, 24), 3);
-        due("behind the others", x.at(0, 7, 2), 24);
-        due("into the least place", x.place(0, 7, 2), 5);
-        due("restored again", x.restore(1), 5);
-        due("with what was left", x.left(1, 2, 3), 6);
-        int[] wrong = {-1, 3, LEAST, MOST};
-        for (int m : wrong) {
-            due("restore " + m, x.restore(m), BAD);
-        }
-        due("not made", x.restore(0), NO);
-        due("not made", x.restore(2), NO);
-    }
+        CHECK.part("16: A MARK is RESTORED: how many ENTRIES there are");
+        Asked x = of(10, 0);
+        x.put(0, 0, 0, 1).is(0);
+        x.add(1, 0, 2).is(1);
+        x.mark(0).is(2);
+        x.put(0, 0, 1, 3).is(0);
+        x.mark(2).is(3);
+        x.tick(10).is(3);
+        x.restore(0).is(2);
+        x.count(1).is(2);
+        x.get(0, 0, 0).is(1);
+        x.at(1, 0, 0).is(2);
+        x.get(0, 0, 1).is(NONE);
+        x.restore(2).is(3);
+        x.count(1).is(3);
+        x.get(0, 0, 1).is(3);
 
-    private static void restoreKeepsTheRest() {
-        CHECK.part("promise 16, what stays");
-        StateEnds x = numbersAndLists();
-        due("put", x.put(0, 0, 0, 1), 0);
-        due("mark", x.mark(0), 1);
-        due("state 2", x.state(0, 0, 5, 0), 2);
-        due("put", x.put(2, 0, 0, 2), 0);
-        due("tick", x.tick(5), 1);
-        due("sweep", x.sweep(100), 1);
-        due("put", x.put(2, 0, 0, 3), 0);
-        due("tick", x.tick(5), 2);
-        due("restore", x.restore(0), 1);
-        due("states stay", x.count(0), 3);
-        due("a state that the mark does not know is empty", x.place(2, 0, 0), NONE);
-        due("entries", x.count(1), 1);
-        due("none is told", x.count(4), 1);
-        due("rows stay", x.row(0, 3), 2);
-        due("ticks stay", x.count(5), 10);
-        due("it is shown", x.get(0, 0, 0), 1);
-        due("a new one", x.put(2, 0, 0, 4), 0);
-        due("its place", x.place(2, 0, 0), 1);
+        CHECK.part("16: BAD: no such number");
+        for (int m : Asked.NO_MARKS) {
+            x.restore(m).is(BAD);
+        }
+        x.count(1).is(3);
+
+        CHECK.part("16: NO: it was not made");
+        x.restore(1).is(NO);
+        x.count(1).is(3);
+        x.mark(1).is(3);
+        x.restore(1).is(3);
     }
 
     private static void row() {
-        CHECK.part("promise 17");
-        StateEnds x = numbersAndLists();
-        due("put", x.put(0, 42, 7, -5), 0);
-        due("add", x.add(1, 99, MOST), 1);
-        due("tick", x.tick(13), 2);
-        due("not told before a sweep", x.row(0, 0), NONE);
-        due("sweep", x.sweep(1), 1);
-        due("tick", x.tick(1), 0);
-        due("sweep", x.sweep(1), 1);
-        dueRow(x, 0, 0, 42, 7, -5, 10, 13);
-        dueRow(x, 1, 1, 99, 0, MOST, 8, 14);
-        int[] noRows = {-1, 2, 150, LEAST, MOST};
+        CHECK.part("17: Of the i-th ROW that is kept: 0 state, 1 KEY, 2 MEMBER, 3 number, 4 END, 5 TICK");
+        Asked x = new Asked(CHECK);
+        x.state(1, 0, 8, 0).is(0);
+        x.state(0, 1, 30, 0).is(1);
+        x.watermark(100).is(0);
+        x.put(1, 42, 7, -5).is(0);
+        x.add(0, 99, NONE).is(1);
+        x.tick(13).is(1);
+        x.watermark(131).is(1);
+        x.sweep(1).is(1);
+        x.tick(1).is(0);
+        x.sweep(1).is(1);
+        x.rowIs(0, 1, 42, 7, -5, 130, 13);
+        x.rowIs(1, 0, 99, 0, NONE, 8, 14);
+
+        CHECK.part("17: NONE: none such");
+        int[] noRows = {-1, 2, 3, 149, 150, LEAST, MOST};
         for (int i : noRows) {
-            due("row " + i, x.row(i, 0), NONE);
+            x.row(i, 0).is(NONE);
+            x.row(i, 5).is(NONE);
         }
-        int[] noWhats = {-1, 6, LEAST, MOST};
+
+        CHECK.part("17: NONE: none such, or what");
+        int[] noWhats = {-1, 6, 7, LEAST, MOST};
         for (int what : noWhats) {
-            due("what " + what, x.row(0, what), NONE);
+            x.row(0, what).is(NONE);
+            x.row(1, what).is(NONE);
+            x.row(2, what).is(NONE);
         }
-    }
-
-    private static void rowsOfPut() {
-        CHECK.part("promise 17, rows of put()");
-        StateEnds x = numbersAndLists();
-        due("put", x.put(0, 3, 4, 7), 0);
-        due("tick", x.tick(12), 1);
-        due("written over what is over", x.put(0, 3, 4, 8), 0);
-        dueRow(x, 0, 0, 3, 4, 7, 10, 12);
-        due("written over what is shown", x.put(0, 3, 4, 9), 1);
-        due("not told", x.count(4), 1);
-        due("sweep", x.sweep(200), 0);
-        due("told once", x.count(4), 1);
-    }
-
-    private static void rowsKept() {
-        CHECK.part("promise 17, 150 rows");
-        StateEnds x = new StateEnds();
-        due("state", x.state(0, 0, 1, 0), 0);
-        fillPlaces(x, 0);
-        due("tick", x.tick(1), 200);
-        due("sweep", x.sweep(150), 150);
-        due("kept", x.count(3), 150);
-        due("the first", x.row(0, 3), 0);
-        due("the last", x.row(149, 3), 149);
-        due("sweep", x.sweep(1), 1);
-        due("kept", x.count(3), 150);
-        due("ever", x.count(4), 151);
-        due("the first went", x.row(0, 3), 1);
-        due("the last", x.row(149, 3), 150);
-        due("no more", x.row(150, 3), NONE);
-        due("sweep", x.sweep(49), 49);
-        for (int i = 0; i < 150; i += 7) {
-            dueRow(x, i, 0, (i + 50) % 100, (i + 50) / 100, i + 50, 1);
-        }
-        due("kept", x.count(3), 150);
-        due("ever", x.count(4), 200);
     }
 
     private static void place() {
-        CHECK.part("promise 18");
-        StateEnds x = numbersAndLists();
-        due("none", x.place(0, 0, 0), NONE);
-        due("none", x.place(1, 0, 0), NONE);
-        due("put", x.put(0, 0, 0, 1), 0);
+        CHECK.part("18: The PLACE of the ENTRY of a KEY and MEMBER");
+        Asked x = of(10, 0);
+        x.put(0, 0, 9, 1).is(0);
+        x.put(0, 99, 0, 1).is(0);
+        x.place(0, 0, 9).is(0);
+        x.place(0, 99, 0).is(1);
+        x.tick(10).is(2);
+        x.place(0, 99, 0).is(1);
+
+        CHECK.part("18: (in a LIST: the i-th one that is there, over or not)");
+        x = of(10, 1);
+        x.put(0, 0, 0, 1).is(0);
         for (int n = 0; n < 12; n++) {
-            due("add", x.add(1, 0, n), n + 1);
+            x.add(1, 0, n).is(n + 1);
         }
-        due("remove", x.remove(0, 0, 0), 1);
-        due("tick", x.tick(1), 0);
-        due("add", x.add(1, 0, 12), 13);
-        due("by the order in which they came", x.place(1, 0, 12), 0);
-        due("an index above 9", x.place(1, 0, 11), 12);
-        due("put", x.put(0, 0, 9, 1), 0);
-        due("tick", x.tick(7), 12);
-        due("over or not", x.place(1, 0, 0), 1);
-        due("over or not", x.place(1, 0, 12), 0);
-        due("tick", x.tick(3), 2);
-        due("form 0, over", x.place(0, 0, 9), 13);
-        due("not so many", x.place(1, 0, 13), NONE);
-        due("not so many", x.place(1, 0, MOST), NONE);
-        due("list, below 0", x.place(1, 0, -1), BAD);
-        due("list, below 0", x.place(1, 0, LEAST), BAD);
-        for (int m : NO_MEMBERS) {
-            due("member " + m, x.place(0, 0, m), BAD);
+        x.remove(0, 0, 0).is(1);
+        x.add(1, 0, 12).is(13);
+        x.tick(9).is(0);
+        x.at(1, 0, 5).is(5);
+        x.tick(1).is(12);
+        x.place(1, 0, 0).is(1);
+        x.place(1, 0, 5).is(6);
+        x.place(1, 0, 11).is(12);
+        x.place(1, 0, 12).is(0);
+        x.sweep(3).is(3);
+        x.place(1, 0, 0).is(3);
+        x.place(1, 0, 3).is(6);
+        x.place(1, 0, 9).is(12);
+
+        CHECK.part("18: NONE: none");
+        x.place(1, 0, 10).is(NONE);
+        x.place(1, 0, MOST).is(NONE);
+        x.place(1, 1, 0).is(NONE);
+        x.place(0, 0, 0).is(NONE);
+        x.place(0, 0, 9).is(NONE);
+
+        CHECK.part("18: BAD (-1): as left()");
+        for (int s : NO_STATES) {
+            x.place(s, 0, 0).is(BAD);
         }
-        due("state -1", x.place(-1, 0, 0), BAD);
-        due("state 2", x.place(2, 0, 0), BAD);
-        for (int k : NO_KEYS) {
-            due("key " + k, x.place(0, k, 0), BAD);
+        for (int k : Asked.NO_KEYS) {
+            x.place(0, k, 0).is(BAD);
+            x.place(1, k, 0).is(BAD);
         }
+        for (int m : Asked.NO_MEMBERS) {
+            x.place(0, 0, m).is(BAD);
+        }
+        x.place(1, 0, -1).is(BAD);
+        x.place(1, 0, LEAST).is(BAD);
     }
 
     private static void next() {
-        CHECK.part("promise 19");
-        StateEnds x = numbersAndLists();
-        due("none", x.next(0), NONE);
-        due("put", x.put(0, 5, 5, 1), 0);
-        due("tick", x.tick(2), 0);
-        due("put", x.put(0, 1, 1, 1), 0);
-        due("add", x.add(1, 1, 1), 1);
-        due("the least", x.next(0), 10);
-        due("of its state", x.next(1), 10);
-        due("tick", x.tick(8), 2);
-        due("of the shown ones", x.next(0), 12);
-        due("none is", x.next(1), NONE);
-        due("setting", x.setting(0, 3, false), 10);
-        due("put", x.put(0, 9, 9, 1), 0);
-        due("put", x.put(0, 1, 1, 1), 1);
-        due("equal ones", x.next(0), 13);
-        due("state -1", x.next(-1), BAD);
-        due("state 2", x.next(2), BAD);
-        due("state", x.next(LEAST), BAD);
-        due("state", x.next(MOST), BAD);
+        CHECK.part("19: The least END of all SHOWN ENTRIES of a state");
+        Asked x = of(10, 0);
+        x.put(0, 50, 5, 1).is(0);
+        x.tick(2).is(0);
+        x.put(0, 1, 1, 1).is(0);
+        x.put(0, 99, 9, 1).is(0);
+        x.add(1, 1, 1).is(1);
+        x.next(0).is(10);
+        x.next(1).is(12);
+        x.tick(7).is(0);
+        x.next(0).is(10);
+        x.tick(1).is(1);
+        x.next(0).is(12);
+        x.setting(0, 1).is(10);
+        x.put(0, 98, 0, 1).is(0);
+        x.next(0).is(11);
+        x.remove(0, 98, 0).is(1);
+        x.next(0).is(12);
+        x.setting(1, 1).is(10);
+        x.add(1, 99, 1).is(1);
+        x.next(1).is(11);
+        x.clear(1, 99).is(1);
+        x.next(1).is(12);
+        x.next(0).is(12);
+
+        CHECK.part("19: NONE: none is");
+        x.tick(2).is(3);
+        x.next(0).is(NONE);
+        x.next(1).is(NONE);
+        x.sweep(200).is(4);
+        x.next(0).is(NONE);
+        x.put(0, 0, 0, 1).is(0);
+        x.remove(0, 0, 0).is(1);
+        x.next(0).is(NONE);
+
+        CHECK.part("19: BAD: no such state");
+        for (int s : NO_STATES) {
+            x.next(s).is(BAD);
+        }
+
+        CHECK.part("19: of all SHOWN ENTRIES of a state (in all PLACES)");
+        x = of(10, 0);
+        x.fill(0);
+        x.tick(3).is(0);
+        x.next(0).is(10);
+        x.next(1).is(NONE);
+        x.setting(0, 6).is(10);
+        x.put(0, 99, 1, 1).is(1);
+        x.next(0).is(9);
+        x.tick(6).is(1);
+        x.next(0).is(10);
+        x.tick(1).is(199);
+        x.next(0).is(NONE);
     }
 
     private static void count() {
-        CHECK.part("promise 20");
-        StateEnds x = numbersAndLists();
-        due("put", x.put(0, 0, 0, 1), 0);
-        due("add", x.add(1, 0, 1), 1);
-        due("add", x.add(1, 0, 2), 2);
-        due("tick", x.tick(9), 2);
-        due("watermark", x.watermark(77), 0);
-        due("sweep", x.sweep(2), 1);
-        int[] dues = {2, 2, 1, 1, 1, 9, 77, 2};
-        for (int what = 0; what < dues.length; what++) {
-            due("count(" + what + ")", x.count(what), dues[what]);
-        }
-        int[] noWhats = {-1, 8, LEAST, MOST};
-        for (int what : noWhats) {
-            due("count(" + what + ")", x.count(what), BAD);
+        CHECK.part("20: How many: 0 STATES, 1 ENTRIES, 2 SHOWN ones, 3 ROWS kept, 4 ROWS ever; 5 TICKS; "
+                + "6 THE WATERMARK; 7 the PLACE at which the next SWEEP begins");
+        Asked x = new Asked(CHECK);
+        x.state(0, 0, 10, 0).is(0);
+        x.state(1, 0, 8, 0).is(1);
+        x.state(0, 1, 8, 0).is(2);
+        x.add(1, 0, 1).is(1);
+        x.put(0, 0, 0, 1).is(0);
+        x.add(1, 0, 2).is(2);
+        x.put(0, 1, 0, 1).is(0);
+        x.put(2, 0, 0, 1).is(0);
+        x.tick(9).is(2);
+        x.watermark(7).is(0);
+        x.sweep(2).is(1);
+        countsAre(x, 3, 4, 3, 1, 1, 9, 7, 2);
+        x.sweep(198).is(1);
+        countsAre(x, 3, 3, 3, 2, 2, 9, 7, 0);
+
+        CHECK.part("20: 3 ROWS kept, 4 ROWS ever (all PLACES)");
+        x = of(1, 0);
+        x.fill(0);
+        countsAre(x, 2, 200, 200, 0, 0, 0, 0, 0);
+        x.tick(1).is(200);
+        countsAre(x, 2, 200, 0, 0, 0, 1, 0, 0);
+        x.sweep(199).is(199);
+        countsAre(x, 2, 1, 0, 150, 199, 1, 0, 199);
+        x.sweep(1).is(1);
+        countsAre(x, 2, 0, 0, 150, 200, 1, 0, 0);
+
+        CHECK.part("20: BAD: another what");
+        int[] wrong = {-1, 8, 9, LEAST, MOST};
+        for (int what : wrong) {
+            x.count(what).is(BAD);
         }
     }
 
-    private static void wrongCallsChangeNothing() {
-        CHECK.part("wrong calls change nothing");
-        StateEnds x = numbersAndLists();
-        due("put", x.put(0, 0, 0, 1), 0);
-        due("add", x.add(1, 0, 2), 1);
-        due("watermark", x.watermark(3), 0);
-        due("tick", x.tick(8), 1);
-        due("mark", x.mark(0), 1);
-        x.put(0, 0, 10, 9);
-        x.put(1, 0, 0, 9);
-        x.add(0, 0, 9);
-        x.add(1, 100, 9);
-        x.remove(0, 0, 1);
-        x.clear(0, 100);
-        x.tick(0);
-        x.watermark(2);
-        x.sweep(201);
-        x.setting(0, 0, true);
-        x.mark(3);
-        x.restore(1);
-        x.restore(-1);
-        int[] dues = {2, 2, 1, 0, 0, 8, 3, 0};
-        for (int what = 0; what < dues.length; what++) {
-            due("count(" + what + ")", x.count(what), dues[what]);
+    private static void countsAre(Asked x, int... counts) {
+        for (int what = 0; what < counts.length; what++) {
+            x.count(what).is(counts[what]);
         }
-        due("left", x.left(0, 0, 0), 2);
-        due("get", x.get(0, 0, 0), 1);
-        due("place", x.place(1, 0, 0), 1);
-        due("the span", x.setting(0, 5, false), 10);
-        due("the mark", x.restore(0), 1);
     }
 }
