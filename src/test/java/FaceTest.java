@@ -17,8 +17,8 @@ public final class FaceTest {
             "tick(int)", "watermark(int)", "sweep(int)", "setting(int,int,boolean)", "mark(int)", "restore(int)",
             "row(int,int)", "place(int,int,int)", "next(int)", "count(int)");
     private static final Set<String> CONSTANTS = Set.of("BAD", "NO", "FULL", "NONE");
-    private static final String[] BARRED = {"throw", "try", "catch", "synchronized", "assert", "->", "::", "import static",
-        "package", "Exact", "System.out", "hashCode", "toString", "protected"};
+    private static final String[] BARRED = {"throw", "try", "catch", "synchronized", "assert", "->", "::",
+        "import static", "package", "System.out", "hashCode", "toString", "protected"};
     private static final Check CHECK = new Check("FaceTest");
 
     public static void main(String[] args) throws IOException {
@@ -104,6 +104,7 @@ public final class FaceTest {
             String pattern = isWord ? "\\b" + Pattern.quote(word) + "\\b" : Pattern.quote(word);
             CHECK.holds("no " + word, !Pattern.compile(pattern).matcher(code).find());
         }
+        CHECK.holds("no function whose name ends in Exact", !Pattern.compile("Exact\\b").matcher(code).find());
         java.util.regex.Matcher imports = Pattern.compile("import ([^;]*);").matcher(code);
         while (imports.find()) {
             CHECK.holds("import " + imports.group(1), imports.group(1).equals("java.util.Arrays"));
